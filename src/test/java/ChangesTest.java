@@ -6,7 +6,13 @@ public final class ChangesTest {
     private static final int CHOICE = 3;
 
     public static void main(String[] args) {
-        wrongCalls();
+        noSuchPair();
+        noSuchValue();
+        noSuchCost();
+        notDone();
+        otherPartNotDone();
+        argumentsBeforeStates();
+        toTheSameCost();
         wayToTheRoot();
         earlierTables();
         toNoneAndBack();
@@ -30,28 +36,146 @@ public final class ChangesTest {
         return x;
     }
 
-    private static void wrongCalls() {
+    private static String noSuch(int a, int b, int valueA, int valueB, int cost) {
+        return "10: change(" + a + ", " + b + ", " + valueA + ", " + valueB + ", " + cost + ")";
+    }
+
+    private static void refused(BargainTree x, int a, int b, int valueA, int valueB, int cost) {
+        Check.thrown(noSuch(a, b, valueA, valueB, cost), Check.ARGUMENT, () -> x.change(a, b, valueA, valueB, cost));
+    }
+
+    /** "IllegalArgumentException as for cost": when there is no such pair */
+    private static void noSuchPair() {
+        BargainTree x = chainDone();
+        String before = Check.look(x, 4);
+        int[][] pairs = {{0, 0}, {1, 1}, {2, 2}, {3, 3}, {0, 2}, {2, 0}, {0, 3}, {3, 0}, {1, 3}, {3, 1}};
+        for (int[] p : pairs) {
+            refused(x, p[0], p[1], 0, 0, 1);
+        }
+        for (int bad : Check.outside(0, 3)) {
+            refused(x, bad, 1, 0, 0, 1);
+            refused(x, 2, bad, 0, 0, 1);
+            refused(x, bad, bad, 0, 0, 1);
+        }
+        Check.same("10: nothing was changed", before, Check.look(x, 4));
+    }
+
+    /** "or value" */
+    private static void noSuchValue() {
+        BargainTree x = Check.problem(2, 3, 4);
+        Check.join(x, "0-1 1-2");
+        x.start();
+        Check.deliverAll(x);
+        String before = Check.look(x, 3);
+        for (int bad : Check.outside(0, 1)) {
+            refused(x, 0, 1, bad, 0, 1);
+            refused(x, 1, 0, 0, bad, 1);
+        }
+        for (int bad : Check.outside(0, 2)) {
+            refused(x, 1, 0, bad, 0, 1);
+            refused(x, 1, 2, bad, 0, 1);
+            refused(x, 2, 1, 0, bad, 1);
+        }
+        for (int bad : Check.outside(0, 3)) {
+            refused(x, 2, 1, bad, 0, 1);
+            refused(x, 1, 2, 0, bad, 1);
+        }
+        Check.same("10: nothing was changed", before, Check.look(x, 3));
+        int[][] last = {{0, 1, 1, 2}, {1, 0, 2, 1}, {1, 2, 2, 3}, {2, 1, 3, 2}};
+        for (int[] c : last) {
+            Check.same("10: the greatest values", 1, x.change(c[0], c[1], c[2], c[3], 1));
+            Check.deliverAll(x);
+        }
+    }
+
+    /** "or cost is not 0 .. 999 or NEVER" */
+    private static void noSuchCost() {
+        BargainTree x = Check.problem(2, 2);
+        x.pair(0, 1);
+        Check.costAll(x, 0, 1, NEVER);
+        x.start();
+        Check.deliverAll(x);
+        for (int cost : new int[] {0, 1, 998, 999, NEVER}) {
+            Check.same("10: change", 1, x.change(1, 0, 0, 1, cost));
+            Check.deliverAll(x);
+            Check.same("13: it costs " + cost, cost == NEVER ? NONE : cost, x.total());
+            String before = Check.look(x, 2);
+            for (int bad : Check.NO_COSTS) {
+                refused(x, 0, 1, 1, 0, bad);
+            }
+            Check.same("10: nothing was changed", before, Check.look(x, 2));
+        }
+    }
+
+    /** "IllegalStateException when done() is not 1 or 2." */
+    private static void notDone() {
         BargainTree open = Check.problem(2, 2);
         open.pair(0, 1);
         Check.thrown("10: open", Check.STATE, () -> open.change(0, 1, 0, 0, 1));
-        Check.thrown("10: open, no such value", Check.ARGUMENT, () -> open.change(0, 1, 0, 2, 1));
-        BargainTree x = chainStarted();
-        Check.thrown("10: not done", Check.STATE, () -> x.change(0, 1, 0, 0, 1));
-        Check.thrown("10: not done, no such pair", Check.ARGUMENT, () -> x.change(0, 2, 0, 0, 1));
+        Check.same("6: it can be started still", 1, open.start());
+        for (int letters = 0; letters < 4; letters++) {
+            Check.same("11: not done", 0, open.done());
+            String before = Check.look(open, 2);
+            Check.thrown("10: not done", Check.STATE, () -> open.change(0, 1, 0, 0, 1));
+            Check.thrown("10: not done", Check.STATE, () -> open.change(1, 0, 1, 1, NEVER));
+            Check.same("10: nothing was changed", before, Check.look(open, 2));
+            open.letter(0, 0);
+        }
+        Check.same("11: all are settled", 1, open.done());
+        Check.same("13: no cost was changed", 0, open.total());
+        Check.same("12: no cost was changed", 0, open.value(1));
+        Check.same("10: change", 1, open.change(0, 1, 0, 0, 1));
+        Check.letter("10: the second run", open, 0, TABLE, 1, 0, 2, 2);
+        Check.thrown("10: not done", Check.STATE, () -> open.change(0, 1, 0, 0, 1));
+        Check.same("7: the table comes", 1, open.letter(0, 0));
+        Check.thrown("10: 1 is not settled in this run", Check.STATE, () -> open.change(0, 1, 0, 0, 1));
+        open.letter(0, 0);
+        Check.same("10: change", 1, open.change(0, 1, 0, 0, 1));
+    }
+
+    /** Another part has not ended: no change here either. */
+    private static void otherPartNotDone() {
+        BargainTree x = Check.started(4, "0-1 2-3");
+        x.letter(0, 0);
+        Check.letter("the token of 2 stays", x, 0, 0, 2, 3, 4, 0);
+        x.letter(1, 0);
+        x.letter(1, 0);
+        x.letter(1, 0);
+        Check.same("12: 0 is settled", 0, x.value(0));
+        Check.same("12: 1 is settled", 0, x.value(1));
+        Check.thrown("10: 2 and 3 are not", Check.STATE, () -> x.change(0, 1, 0, 0, 1));
         Check.deliverAll(x);
-        for (int bad : new int[] {Integer.MIN_VALUE, -3, -1, 4, 8, 1000, Integer.MAX_VALUE}) {
-            Check.thrown("10: no such agent", Check.ARGUMENT, () -> x.change(bad, 1, 0, 0, 1));
-            Check.thrown("10: no such agent", Check.ARGUMENT, () -> x.change(0, bad, 0, 0, 1));
-            Check.thrown("10: no such value", Check.ARGUMENT, () -> x.change(0, 1, bad, 0, 1));
-            Check.thrown("10: no such value", Check.ARGUMENT, () -> x.change(0, 1, 0, bad, 1));
+        Check.same("10: now all are", 1, x.change(0, 1, 0, 0, 1));
+    }
+
+    /** Where arguments and state are both wrong, the document names the arguments first. */
+    private static void argumentsBeforeStates() {
+        BargainTree open = Check.problem(2, 2, 2);
+        open.pair(0, 1);
+        BargainTree x = Check.started(3, "0-1");
+        for (BargainTree y : new BargainTree[] {open, x}) {
+            refused(y, 0, 2, 0, 0, 1);
+            refused(y, 0, 3, 0, 0, 1);
+            refused(y, -1, 0, 0, 0, 1);
+            refused(y, 0, 1, 2, 0, 1);
+            refused(y, 0, 1, 0, -1, 1);
+            refused(y, 0, 1, 0, 0, 1000);
+            refused(y, 0, 1, 0, 0, -1);
         }
-        for (int cost : new int[] {Integer.MIN_VALUE, -3, -1, 1000, Integer.MAX_VALUE}) {
-            Check.thrown("10: no such cost", Check.ARGUMENT, () -> x.change(0, 1, 0, 0, cost));
+    }
+
+    /** "A change (perhaps to the cost that it has)": that is a change too. */
+    private static void toTheSameCost() {
+        BargainTree x = chainDone();
+        for (int run = 2; run < 12; run++) {
+            Check.same("10: change", 1, x.change(1, 0, 1, 1, 0));
+            Check.letter("10: a table of the next run", x, 0, TABLE, 0, 1, run, 2);
+            Check.same("11: something is to be done", 0, x.done());
+            Check.same("17: that one's own counts", 1, x.tables());
+            Check.deliverAll(x);
+            Check.same("11: done()", 1, x.done());
+            Check.same("17: and the root's", 2, x.tables());
         }
-        Check.thrown("10: one agent", Check.ARGUMENT, () -> x.change(1, 1, 0, 0, 1));
-        Check.thrown("10: no pair", Check.ARGUMENT, () -> x.change(0, 3, 0, 0, 1));
-        Check.same("11: nothing was changed", 1, x.done());
-        Check.same("17: nothing was made", 4, x.tables());
     }
 
     private static void wayToTheRoot() {

@@ -3,6 +3,7 @@ public final class ChoicesTest {
     private static final int NONE = BargainTree.NONE;
     private static final int NEVER = BargainTree.NEVER;
     private static final int CHOICE = 3;
+    private static final String TWELVE = "0-1 1-2 2-3 3-4 4-5 5-6 6-7 7-0 0-2 1-3 4-6 5-7";
 
     public static void main(String[] args) {
         chain();
@@ -10,6 +11,10 @@ public final class ChoicesTest {
         rootFindsNone();
         severalParts();
         dearestTotal();
+        oneCostIsNever();
+        settledAtFirst();
+        runsOfChoices();
+        choiceInAnyOrder();
         Check.end();
     }
 
@@ -52,11 +57,9 @@ public final class ChoicesTest {
         Check.same("12: settled", 1, x.value(3));
         Check.same("11: all are", 1, x.done());
         Check.same("13: total()", 0, x.total());
-        for (int a : new int[] {Integer.MIN_VALUE, -1, 4, 8, Integer.MAX_VALUE}) {
-            Check.same("12: no such agent", NONE, x.value(a));
-        }
     }
 
+    /** "takes the least of its values with which that entry of its table is reached" */
     private static void leastValueOfEqualOnes() {
         BargainTree x = Check.problem(4, 4);
         x.pair(0, 1);
@@ -72,6 +75,7 @@ public final class ChoicesTest {
         Check.same("13: total()", 6, x.total());
     }
 
+    /** "(A root whose entry is NEVER finds NONE in this run instead.)" */
     private static void rootFindsNone() {
         BargainTree x = Check.problem(2, 2, 3);
         x.pair(0, 1);
@@ -122,28 +126,114 @@ public final class ChoicesTest {
         Check.same("13: none", NONE, y.total());
     }
 
-    private static void dearestTotal() {
+    /** Eight agents, twelve pairs, and everything costs as much as it can. */
+    private static BargainTree dearest() {
         BargainTree x = Check.problem(2, 2, 2, 2, 2, 2, 2, 2);
-        Check.join(x, "0-1 1-2 2-3 3-4 4-5 5-6 6-7 7-0 0-2 1-3 4-6 5-7");
+        Check.join(x, TWELVE);
         for (int a = 0; a < 8; a++) {
             x.own(a, 0, 999);
             x.own(a, 1, 999);
-            for (int b = 0; b < a; b++) {
-                costAll(x, a, b);
-            }
         }
+        for (String p : TWELVE.split(" ")) {
+            Check.costAll(x, p.charAt(0) - '0', p.charAt(2) - '0', 999);
+        }
+        return x;
+    }
+
+    /** "it costs the sum of all own costs and costs of pairs" */
+    private static void dearestTotal() {
+        BargainTree x = dearest();
         x.start();
         Check.deliverAll(x);
         Check.same("13: all cost the most", 20 * 999, x.total());
+        x.change(5, 7, 0, 0, 998);
+        Check.deliverAll(x);
+        Check.same("13: one less", 20 * 999 - 1, x.total());
     }
 
-    private static void costAll(BargainTree x, int a, int b) {
-        try {
-            for (int v = 0; v < 4; v++) {
-                x.cost(a, b, v / 2, v % 2, 999);
-            }
-        } catch (IllegalArgumentException e) {
-            // they are no pair
+    /** "or NEVER, if one of them is that" */
+    private static void oneCostIsNever() {
+        for (int a = 0; a < 8; a++) {
+            BargainTree x = dearest();
+            x.own(a, 0, NEVER);
+            x.start();
+            Check.deliverAll(x);
+            Check.same("13: another value can be taken", 20 * 999, x.total());
+            Check.same("12: not the one that is never", 1, x.value(a));
+            BargainTree y = dearest();
+            y.own(a, 0, NEVER);
+            y.own(a, 1, NEVER);
+            y.start();
+            Check.deliverAll(y);
+            Check.same("11: no value can be taken", 2, y.done());
         }
+        for (String p : TWELVE.split(" ")) {
+            BargainTree x = dearest();
+            Check.costAll(x, p.charAt(0) - '0', p.charAt(2) - '0', NEVER);
+            x.start();
+            Check.deliverAll(x);
+            Check.same("11: no values of " + p, 2, x.done());
+            Check.same("13: no values of " + p, NONE, x.total());
+        }
+    }
+
+    /** "CHOICE with a run greater than the one it is settled in (0 before)": also when the first one is of a later run. */
+    private static void settledAtFirst() {
+        BargainTree x = Check.problem(2, 2);
+        x.pair(0, 1);
+        Check.costAll(x, 0, 1, NEVER);
+        x.start();
+        Check.deliverAll(x);
+        Check.same("11: none in the first run", 2, x.done());
+        x.change(0, 1, 1, 1, 4);
+        x.letter(0, 0);
+        Check.letter("the first choice is of the second run", x, 0, CHOICE, 0, 1, 2, 1);
+        Check.same("12: the root is settled", 1, x.value(0));
+        Check.same("12: the other one is not", NONE, x.value(1));
+        x.letter(0, 0);
+        Check.same("12: now it is", 1, x.value(1));
+        Check.same("13: total()", 4, x.total());
+    }
+
+    /** "Any other CHOICE: nothing." */
+    private static void runsOfChoices() {
+        BargainTree x = Check.settled(2, "0-1");
+        x.again(0);
+        Check.same("a run as great is nothing", 0, x.letter(0, 0));
+        Check.same("12: it stays", 0, x.value(1));
+        x.again(0);
+        Check.letter("of the first run", x, 0, CHOICE, 0, 1, 1, 1);
+        x.change(0, 1, 0, 0, 3);
+        Check.same("12: settled in the run before", NONE, x.value(1));
+        x.letter(0, 2);
+        Check.same("a run as great is nothing, in a new run too", 2, x.letter(0, 0));
+        Check.same("12: settled in the run before", NONE, x.value(1));
+        x.letter(0, 0);
+        Check.letter("of the first run", x, 0, CHOICE, 0, 1, 1, 1);
+        Check.letter("of the second run", x, 1, CHOICE, 0, 1, 2, 1);
+        Check.same("a greater run", 1, x.letter(1, 0));
+        Check.same("12: settled anew", 1, x.value(1));
+        Check.same("a lesser run is nothing", 0, x.letter(0, 0));
+        Check.same("12: it stays", 1, x.value(1));
+        Check.same("11: done()", 1, x.done());
+        x.again(0);
+        Check.letter("9: of the second run", x, 0, CHOICE, 0, 1, 2, 1);
+    }
+
+    /** The choice of the first run comes behind that of the second: an agent with a child sends nothing then. */
+    private static void choiceInAnyOrder() {
+        BargainTree x = Check.settled(4, "0-1 1-2 2-3");
+        x.again(1);
+        x.letter(1, 1);
+        Check.letter("of the first run", x, 0, CHOICE, 1, 2, 1, 1);
+        x.change(1, 2, 0, 0, 5);
+        x.letter(1, 0);
+        Check.letter("of the second run", x, 1, CHOICE, 1, 2, 2, 1);
+        Check.same("7: it tells 3", 3, x.letter(1, 0));
+        Check.letter("to 3", x, 2, CHOICE, 2, 3, 2, 2);
+        Check.same("7: the one of the first run is nothing", 2, x.letter(0, 0));
+        Check.same("12: 2 stays settled", 1, x.value(2));
+        Check.deliverAll(x);
+        Check.same("11: done()", 1, x.done());
     }
 }

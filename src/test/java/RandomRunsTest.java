@@ -5,34 +5,44 @@ import java.util.Random;
 
 /**
  * Random problems whose letters are lost, doubled and handed over in any order. The tree is found by a plain
- * walk, and every table, choice, value and total by trying out every assignment. Looking at all letters takes more
- * than 512 calls: the document leaves free what is answered then, but this class goes on as before.
+ * walk, and every table, choice, value and total by trying out every assignment. Of the letters some are looked at,
+ * as many as 512 calls allow.
  */
 public final class RandomRunsTest {
     private static final int NONE = BargainTree.NONE;
     private static final int NEVER = BargainTree.NEVER;
-    private static final int PROBLEMS = 1500;
-    private static final int MOST_ASSIGNMENTS = 3000;
-    private static final int CHANGES = 3;
+    private static final int BACK = 1;
+    private static final int TABLE = 2;
+    private static final int CHOICE = 3;
+    private static final int PROBLEMS = 6000;
+    private static final int MOST_ASSIGNMENTS = 1500;
+    private static final int CALLS_AT_THE_END = 40;
 
     private final Random random;
-    private final BargainTree x = new BargainTree();
+    private final Counted x = new Counted();
     private final int n;
     private final int[] values;
     private final int[][] own;
     /** By both agents, a * 8 + b; null where there is no pair. */
     private final int[][][] pair = new int[64][][];
+    /** The costs of pairs as they were in the runs of a part, by its root and the run. */
+    private final Map<String, int[][][]> pairThen = new HashMap<>();
+    private final int[] run = new int[8];
     private final int[] parent = new int[8];
     private final int[] root = new int[8];
     private final int[] walked = new int[8];
     private int walkedCount;
-    private final int[] run = new int[8];
-    /** What was due when it was seen first, by kind, agent and run. */
-    private final Map<String, int[]> seen = new HashMap<>();
     private int tablesDue;
+    private int letters;
+    /** Of so many letters one is lost, and one is doubled. */
+    private final int luck;
+    /** Of so many costs one is NEVER. */
+    private final int hope;
 
     private RandomRunsTest(long seed) {
         random = new Random(seed);
+        luck = 4 + random.nextInt(40);
+        hope = 2 + random.nextInt(10);
         n = 1 + random.nextInt(8);
         values = new int[n];
         own = new int[n][];
@@ -51,8 +61,9 @@ public final class RandomRunsTest {
         for (int seed = 0; seed < PROBLEMS; seed++) {
             new RandomRunsTest(seed).play(ends);
         }
-        Check.same("some problems have an assignment", 1, ends[1] > 100 ? 1 : 0);
-        Check.same("some have none", 1, ends[2] > 100 ? 1 : 0);
+        System.out.println("ended: " + Arrays.toString(ends));
+        Check.same("many runs have an assignment", 1, ends[1] > PROBLEMS / 2 ? 1 : 0);
+        Check.same("many have none", 1, ends[2] > PROBLEMS / 2 ? 1 : 0);
         Check.end();
     }
 
@@ -61,31 +72,32 @@ public final class RandomRunsTest {
         walkAll();
         int parts = 0;
         for (int a = 0; a < n; a++) {
-            parts += root[a] == a ? 1 : 0;
-            run[a] = 1;
+            if (root[a] == a) {
+                parts++;
+                letters += neighbours(a) > 0 ? 1 : 0;
+                nextRun(a);
+            }
         }
         tablesDue = n;
-        Check.same("start()", parts, x.start());
-        handOver();
-        ends[x.done()]++;
-        for (int i = 0; i < CHANGES && hasPair(); i++) {
+        Check.same("start()", parts, x.call().start());
+        boolean ended = handOver(ends);
+        while (ended && letters < 20 && hasPair() && x.left() > 2 * CALLS_AT_THE_END) {
             changeOne();
-            handOver();
-            ends[x.done()]++;
+            ended = handOver(ends);
         }
     }
 
     private int someCost() {
-        return random.nextInt(8) == 0 ? NEVER : random.nextInt(6);
+        return random.nextInt(hope) == 0 ? NEVER : random.nextInt(6);
     }
 
     private void makeProblem() {
         for (int a = 0; a < n; a++) {
-            x.agent(values[a]);
+            x.call().agent(values[a]);
             own[a] = new int[values[a]];
             for (int v = 0; v < values[a]; v++) {
                 own[a][v] = someCost();
-                x.own(a, v, own[a][v]);
+                x.call().own(a, v, own[a][v]);
             }
         }
         int tries = random.nextInt(25);
@@ -95,7 +107,7 @@ public final class RandomRunsTest {
             int b = random.nextInt(n);
             if (a != b && pair[a * 8 + b] == null) {
                 pairs++;
-                Check.same("pair", pairs, x.pair(a, b));
+                Check.same("pair", pairs, x.call().pair(a, b));
                 makePair(a, b);
             }
         }
@@ -107,7 +119,7 @@ public final class RandomRunsTest {
         for (int v = 0; v < values[a]; v++) {
             for (int w = 0; w < values[b]; w++) {
                 int cost = someCost();
-                x.cost(a, b, v, w, cost);
+                x.call().cost(a, b, v, w, cost);
                 setCost(a, b, v, w, cost);
             }
         }
@@ -118,13 +130,18 @@ public final class RandomRunsTest {
         pair[b * 8 + a][w][v] = cost;
     }
 
-    private boolean hasPair() {
+    /** The costs stay as they are now for all that is made in this run of the part. */
+    private void nextRun(int top) {
+        run[top]++;
+        int[][][] now = new int[64][][];
         for (int i = 0; i < 64; i++) {
-            if (pair[i] != null) {
-                return true;
-            }
+            now[i] = pair[i] == null ? null : Arrays.stream(pair[i]).map(int[]::clone).toArray(int[][]::new);
         }
-        return false;
+        pairThen.put(top + " " + run[top], now);
+    }
+
+    private boolean hasPair() {
+        return Arrays.stream(pair).anyMatch(p -> p != null);
     }
 
     private int neighbours(int a) {
@@ -188,43 +205,51 @@ public final class RandomRunsTest {
     }
 
     private int entriesOf(int a) {
+        int separator = separator(a);
         int count = 1;
         for (int b = 0; b < n; b++) {
-            count *= (separator(a) >> b & 1) == 1 ? values[b] : 1;
+            count *= (separator >> b & 1) == 1 ? values[b] : 1;
         }
         return count;
     }
 
-    /** Loses, doubles and delivers until something has come to an end, then checks the end. */
-    private void handOver() {
-        for (int step = 0; step < 400 && x.done() == 0; step++) {
-            int letters = Check.lettersOf(x);
-            int what = random.nextInt(12);
-            if (letters == 0 || what == 0) {
-                x.again(random.nextInt(n));
-            } else if (what == 1) {
-                Check.same("lost", letters - 1, x.letter(random.nextInt(letters), 1));
-            } else if (what == 2 && letters < 20) {
-                Check.same("doubled", letters + 1, x.letter(random.nextInt(letters), 2));
-            } else {
-                x.letter(random.nextInt(letters), 0);
+    /** Hands letters over until all has come to an end, and checks that: whether the calls lasted so long. */
+    private boolean handOver(int[] ends) {
+        while (x.left() > CALLS_AT_THE_END) {
+            if (random.nextInt(3) == 0 || letters == 0) {
+                int done = x.call().done();
+                if (done != 0) {
+                    ends[done]++;
+                    checkEnd(done);
+                    return done != 3;
+                }
             }
-            checkLetters();
-        }
-        for (int i = 0; i < 40 && x.done() == 0; i++) {
-            Check.deliverAll(x);
-            for (int a = 0; a < n; a++) {
-                x.again(a);
+            handOne();
+            if (letters > 0 && random.nextInt(3) == 0 && x.left() > CALLS_AT_THE_END + 20) {
+                checkLetter(random.nextInt(letters));
             }
-            checkLetters();
         }
-        checkEnd();
+        return false;
+    }
+
+    private void handOne() {
+        int what = random.nextInt(luck);
+        if (letters == 0 || what == 0) {
+            int before = letters;
+            letters = x.call().again(random.nextInt(n));
+            Check.same("again takes none away", 1, letters >= before && letters <= 20 ? 1 : 0);
+        } else if (what == 1) {
+            letters--;
+            Check.same("lost", letters, x.call().letter(random.nextInt(letters + 1), 1));
+        } else if (what == 2 && letters < 20) {
+            letters++;
+            Check.same("doubled", letters, x.call().letter(random.nextInt(letters - 1), 2));
+        } else {
+            letters = x.call().letter(random.nextInt(letters), 0);
+        }
     }
 
     private void changeOne() {
-        if (x.done() == 3) {
-            return;
-        }
         int a;
         int b;
         do {
@@ -235,77 +260,88 @@ public final class RandomRunsTest {
         int w = random.nextInt(values[b]);
         int cost = someCost();
         setCost(a, b, v, w, cost);
-        run[root[a]]++;
+        nextRun(root[a]);
+        int changed = isBelow(a, b) ? a : b;
         tablesDue = 0;
-        for (int at = isBelow(a, b) ? a : b; at != NONE; at = parent[at]) {
+        for (int at = changed; at != NONE; at = parent[at]) {
             tablesDue++;
         }
-        int before = Check.lettersOf(x);
-        Check.same("change", Math.min(20, before + 1), x.change(a, b, v, w, cost));
-        checkLetters();
+        letters++;
+        Check.same("change", letters, x.call().change(a, b, v, w, cost));
+        Check.same("its table is the last letter", TABLE, x.call().told(letters - 1, 0));
+        Check.same("it is from the lower one", changed, x.call().told(letters - 1, 1));
+        Check.same("it is of the part's run", run[root[a]], x.call().told(letters - 1, 3));
     }
 
-    private void checkLetters() {
-        for (int k = 0; x.told(k, 0) != NONE; k++) {
-            int from = x.told(k, 1);
-            boolean upwards = x.told(k, 0) == 1 || x.told(k, 0) == 2;
-            Check.same("along the tree", upwards ? parent[from] : from, upwards ? x.told(k, 2) : parent[x.told(k, 2)]);
-            if (x.told(k, 0) == 2) {
-                int[] due = seen.computeIfAbsent("table " + from + " " + x.told(k, 3), key -> tableOf(from));
-                Check.same("how many entries", due.length, x.told(k, 4));
-                Check.content("entries", x, k, due);
+    private void checkLetter(int k) {
+        int kind = x.call().told(k, 0);
+        int from = x.call().told(k, 1);
+        int to = x.call().told(k, 2);
+        boolean upwards = kind == BACK || kind == TABLE;
+        Check.same("along the tree", upwards ? parent[from] : from, upwards ? to : parent[to]);
+        if (kind < TABLE) {
+            Check.same("4: a token or back has none", 0, x.call().told(k, 4));
+            return;
+        }
+        int[][][] costs = pairThen.get(root[from] + " " + x.call().told(k, 3));
+        Check.same("a run that there was", 1, costs != null ? 1 : 0);
+        if (costs != null && kind == TABLE) {
+            int[] due = tableOf(from, costs);
+            Check.same("how many entries", due.length, x.call().told(k, 4));
+            for (int i = 0; i < Math.min(8, due.length + 1); i++) {
+                int entry = due.length < 8 ? i : random.nextInt(due.length + 1);
+                Check.same("entry " + entry, entry < due.length ? due[entry] : NONE, x.call().told(k, 10 + entry));
             }
-            if (x.told(k, 0) == 3) {
-                checkChoice(k, from);
-            }
+        }
+        if (costs != null && kind == CHOICE) {
+            int[] best = bestOf(root[from], costs);
+            Check.same("there is something to choose", 1, best != null ? 1 : 0);
+            checkChoice(k, from, best != null ? best : new int[n]);
         }
     }
 
-    private void checkChoice(int k, int from) {
-        int[] best = seen.computeIfAbsent("best " + root[from] + " " + x.told(k, 3), key -> bestOf(root[from]));
-        int[] due = new int[8];
+    private void checkChoice(int k, int from, int[] best) {
         int count = 0;
         for (int a = 0; a < 8; a++) {
             boolean toldOf = a < n && isBelow(from, a);
-            due[a] = toldOf ? best[a] : NONE;
+            Check.same("value of " + a, toldOf ? best[a] : NONE, x.call().told(k, 10 + a));
             count += toldOf ? 1 : 0;
         }
-        Check.same("how many values", count, x.told(k, 4));
-        Check.content("values", x, k, due);
+        Check.same("how many values", count, x.call().told(k, 4));
     }
 
-    private void checkEnd() {
+    private void checkEnd(int done) {
         int wide = 0;
         int none = 0;
         int total = 0;
         for (int a = 0; a < n; a++) {
             wide += entriesOf(a) > 256 ? 1 : 0;
             if (root[a] == a) {
-                int entry = tableOf(a)[0];
+                int entry = tableOf(a, pair)[0];
                 none += entry == NEVER ? 1 : 0;
                 total += entry;
             }
         }
-        int done = wide > 0 ? 3 : none > 0 ? 2 : 1;
-        Check.same("done()", done, x.done());
-        if (done == 3) {
+        Check.same("done()", wide > 0 ? 3 : none > 0 ? 2 : 1, done);
+        Check.same("total()", wide > 0 || none > 0 ? NONE : total, x.call().total());
+        if (wide > 0) {
             return;
         }
-        Check.same("total()", none > 0 ? NONE : total, x.total());
-        Check.same("tables()", tablesDue, x.tables());
+        Check.same("tables()", tablesDue, x.call().tables());
         for (int a = 0; a < n; a++) {
-            Check.same("parent", parent[a], x.parent(a));
-            Check.same("separator", separator(a), x.separator(a));
-            Check.same("entries", entriesOf(a), x.entries(a));
-            int[] best = bestOf(root[a]);
-            Check.same("value", best == null ? NONE : best[a], x.value(a));
+            Check.same("parent", parent[a], x.call().parent(a));
+            Check.same("separator", separator(a), x.call().separator(a));
+            Check.same("entries", entriesOf(a), x.call().entries(a));
+            int[] best = bestOf(root[a], pair);
+            Check.same("value", best == null ? NONE : best[a], x.call().value(a));
         }
     }
 
-    private int costOf(int[] assignment, int top) {
+    /** What these agents cost, with their pairs with others. */
+    private int costOf(int[] assignment, boolean[] below, int[][][] costs) {
         int sum = 0;
         for (int a = 0; a < n; a++) {
-            if (!isBelow(a, top)) {
+            if (!below[a]) {
                 continue;
             }
             int cost = own[a][assignment[a]];
@@ -314,10 +350,10 @@ public final class RandomRunsTest {
             }
             sum += cost;
             for (int b = 0; b < n; b++) {
-                if (pair[a * 8 + b] == null || isBelow(b, top) && b > a) {
+                if (costs[a * 8 + b] == null || below[b] && b > a) {
                     continue;
                 }
-                cost = pair[a * 8 + b][assignment[a]][assignment[b]];
+                cost = costs[a * 8 + b][assignment[a]][assignment[b]];
                 if (cost == NEVER) {
                     return NEVER;
                 }
@@ -327,18 +363,32 @@ public final class RandomRunsTest {
         return sum;
     }
 
+    private boolean[] allBelow(int top) {
+        boolean[] below = new boolean[n];
+        for (int a = 0; a < n; a++) {
+            below[a] = isBelow(a, top);
+        }
+        return below;
+    }
+
+    private static int maskOf(boolean[] agents) {
+        int mask = 0;
+        for (int a = 0; a < agents.length; a++) {
+            mask |= agents[a] ? 1 << a : 0;
+        }
+        return mask;
+    }
+
     /** For each values of the separator the least cost of all that is at or below the agent. */
-    private int[] tableOf(int top) {
+    private int[] tableOf(int top, int[][][] costs) {
         int[] table = new int[entriesOf(top)];
         Arrays.fill(table, NEVER);
         int separator = separator(top);
         int[] assignment = new int[n];
-        int free = separator;
-        for (int a = 0; a < n; a++) {
-            free |= isBelow(a, top) ? 1 << a : 0;
-        }
+        boolean[] below = allBelow(top);
+        int free = separator | maskOf(below);
         do {
-            int cost = costOf(assignment, top);
+            int cost = costOf(assignment, below, costs);
             int entry = 0;
             for (int a = n - 1; a >= 0; a--) {
                 entry = (separator >> a & 1) == 1 ? entry * values[a] + assignment[a] : entry;
@@ -365,21 +415,18 @@ public final class RandomRunsTest {
     }
 
     /** The first cheapest assignment of a part, in the order in which the token comes to the agents. */
-    private int[] bestOf(int top) {
+    private int[] bestOf(int top, int[][][] costs) {
         int[] assignment = new int[n];
         int[] best = null;
         int least = NEVER;
-        int free = 0;
-        for (int a = 0; a < n; a++) {
-            free |= root[a] == top ? 1 << a : 0;
-        }
+        boolean[] below = allBelow(top);
         do {
-            int cost = costOf(assignment, top);
+            int cost = costOf(assignment, below, costs);
             if (cost != NEVER && (least == NEVER || cost < least)) {
                 least = cost;
                 best = assignment.clone();
             }
-        } while (next(assignment, free));
+        } while (next(assignment, maskOf(below)));
         return best;
     }
 }

@@ -13,6 +13,8 @@ public final class ChangesTest {
         otherPartNotDone();
         argumentsBeforeStates();
         toTheSameCost();
+        ancestorThatIsNoParent();
+        ancestorWithTheGreaterNumber();
         wayToTheRoot();
         earlierTables();
         toNoneAndBack();
@@ -313,5 +315,34 @@ public final class ChangesTest {
         Check.deliverAll(x);
         Check.same("11: done()", 1, x.done());
         Check.same("12: value(0)", 1, x.value(0));
+    }
+
+    /** "of the two agents the one that has the other one as an ancestor makes its table anew in this run" */
+    private static void ancestorThatIsNoParent() {
+        BargainTree x = Check.settled(8, "0-1 1-2 2-3 3-4 4-5 5-6 6-7 7-0");
+        Check.same("10: change", 1, x.change(0, 7, 0, 0, 9));
+        Check.letter("10: 7 has 0 as an ancestor, and 6 as its parent", x, 0, TABLE, 7, 6, 2, 4);
+        Check.deliverAll(x);
+        Check.same("17: of all eight", 8, x.tables());
+        Check.same("12: 7 goes out of the way", 1, x.value(7));
+        Check.same("10: turned round", 1, x.change(7, 0, 1, 0, 9));
+        Check.letter("10: of 7 again", x, 0, TABLE, 7, 6, 3, 4);
+        Check.deliverAll(x);
+        Check.same("12: now 0 goes out of the way", 1, x.value(0));
+        Check.same("13: total()", 0, x.total());
+    }
+
+    private static void ancestorWithTheGreaterNumber() {
+        BargainTree x = Check.settled(4, "3-0 3-1 3-2");
+        for (int a = 0; a < 3; a++) {
+            Check.same("10: change", 1, x.change(3, a, 0, 0, 1));
+            Check.letter("10: of the lower one", x, 0, TABLE, a, 3, 2 + 2 * a, 2);
+            Check.deliverAll(x);
+            Check.same("10: turned round", 1, x.change(a, 3, 1, 0, 1));
+            Check.letter("10: of the lower one", x, 0, TABLE, a, 3, 3 + 2 * a, 2);
+            Check.deliverAll(x);
+            Check.same("17: its own and the root's", 2, x.tables());
+            Check.same("12: the root goes out of the way", 1, x.value(3));
+        }
     }
 }

@@ -6,7 +6,8 @@ import java.util.Random;
 /**
  * Random problems whose letters are lost, doubled and handed over in any order. The tree is found by a plain
  * walk, and every table, choice, value and total by trying out every assignment. Of the letters some are looked at,
- * as many as 512 calls allow.
+ * as many as 512 calls allow. Hardly any problem that is made at random has an agent that is too wide: those that may
+ * have one are joined by pairs that stand here.
  */
 public final class RandomRunsTest {
     private static final int NONE = BargainTree.NONE;
@@ -17,8 +18,26 @@ public final class RandomRunsTest {
     private static final int PROBLEMS = 6000;
     private static final int MOST_ASSIGNMENTS = 1500;
     private static final int CALLS_AT_THE_END = 40;
+    /** Joined so, there is an agent with five others in its separator. */
+    private static final String[] WIDE = {
+        "0-1 0-2 0-3 1-5 1-6 2-3 2-4 3-7 4-5 4-7 5-6 6-7",
+        "0-1 0-2 0-5 1-3 1-7 2-5 2-6 3-4 3-6 4-5 4-7 6-7",
+        "0-1 0-2 0-7 1-4 1-5 2-3 2-5 3-4 3-7 4-6 5-6 6-7",
+        "0-1 0-3 0-4 1-6 1-7 2-3 2-4 2-7 3-5 4-5 5-6 6-7",
+        "0-1 0-3 0-7 1-2 1-7 2-4 2-5 3-4 3-6 4-6 5-6 5-7",
+        "0-1 0-4 0-6 1-3 1-7 2-3 2-4 2-5 3-6 4-7 5-6 5-7",
+        "0-2 0-3 0-6 1-2 1-5 1-7 2-4 3-4 3-5 4-7 5-6 6-7",
+        "0-2 0-5 0-6 1-4 1-5 1-6 2-4 2-7 3-4 3-5 3-7 6-7",
+        "0-3 0-4 0-6 1-5 1-6 1-7 2-4 2-5 2-6 3-5 3-7 4-7",
+        "0-4 0-5 0-7 1-2 1-3 1-4 2-5 2-7 3-6 3-7 4-6 5-6",
+    };
+    private static final int WIDE_PROBLEMS = 200;
+
+    private static int wideToTheEnd;
 
     private final Random random;
+    /** Pairs written like "0-1 1-2", or null where they are made at random. */
+    private final String joined;
     private final Counted x = new Counted();
     private final int n;
     private final int[] values;
@@ -32,6 +51,7 @@ public final class RandomRunsTest {
     private final int[] root = new int[8];
     private final int[] walked = new int[8];
     private int walkedCount;
+    private int pairs;
     private int tablesDue;
     private int letters;
     /** Of so many letters one is lost, and one is doubled. */
@@ -43,6 +63,7 @@ public final class RandomRunsTest {
         random = new Random(seed);
         luck = 4 + random.nextInt(40);
         hope = 2 + random.nextInt(10);
+        joined = null;
         n = 1 + random.nextInt(8);
         values = new int[n];
         own = new int[n][];
@@ -56,14 +77,31 @@ public final class RandomRunsTest {
         }
     }
 
+    private RandomRunsTest(long seed, String joined) {
+        random = new Random(seed);
+        luck = 10 + random.nextInt(40);
+        hope = 5 + random.nextInt(20);
+        this.joined = joined;
+        n = 8;
+        values = new int[n];
+        own = new int[n][];
+        for (int a = 0; a < n; a++) {
+            values[a] = 2 + Math.min(2, random.nextInt(5));
+        }
+    }
+
     public static void main(String[] args) {
         int[] ends = new int[4];
         for (int seed = 0; seed < PROBLEMS; seed++) {
             new RandomRunsTest(seed).play(ends);
         }
-        System.out.println("ended: " + Arrays.toString(ends));
+        for (int seed = 0; seed < WIDE_PROBLEMS; seed++) {
+            new RandomRunsTest(seed, WIDE[seed % WIDE.length]).play(ends);
+        }
+        System.out.println("ended: " + Arrays.toString(ends) + ", " + wideToTheEnd + " of the last to the very end");
         Check.same("many runs have an assignment", 1, ends[1] > PROBLEMS / 2 ? 1 : 0);
         Check.same("many have none", 1, ends[2] > PROBLEMS / 2 ? 1 : 0);
+        Check.same("some are too wide", 1, wideToTheEnd > WIDE_PROBLEMS / 4 ? 1 : 0);
         Check.end();
     }
 
@@ -100,20 +138,29 @@ public final class RandomRunsTest {
                 x.call().own(a, v, own[a][v]);
             }
         }
+        if (joined == null) {
+            makePairs();
+            return;
+        }
+        for (String two : joined.split(" ")) {
+            makePair(two.charAt(0) - '0', two.charAt(2) - '0');
+        }
+    }
+
+    private void makePairs() {
         int tries = random.nextInt(25);
-        int pairs = 0;
         for (int i = 0; i < tries && pairs < 12; i++) {
             int a = random.nextInt(n);
             int b = random.nextInt(n);
             if (a != b && pair[a * 8 + b] == null) {
-                pairs++;
-                Check.same("pair", pairs, x.call().pair(a, b));
                 makePair(a, b);
             }
         }
     }
 
     private void makePair(int a, int b) {
+        pairs++;
+        Check.same("pair", pairs, x.call().pair(a, b));
         pair[a * 8 + b] = new int[values[a]][values[b]];
         pair[b * 8 + a] = new int[values[b]][values[a]];
         for (int v = 0; v < values[a]; v++) {
@@ -325,6 +372,7 @@ public final class RandomRunsTest {
         Check.same("done()", wide > 0 ? 3 : none > 0 ? 2 : 1, done);
         Check.same("total()", wide > 0 || none > 0 ? NONE : total, x.call().total());
         if (wide > 0) {
+            checkWide();
             return;
         }
         Check.same("tables()", tablesDue, x.call().tables());
@@ -335,6 +383,47 @@ public final class RandomRunsTest {
             int[] best = bestOf(root[a], pair);
             Check.same("value", best == null ? NONE : best[a], x.call().value(a));
         }
+    }
+
+    /** "A table would have more than 256 entries: then the agent is TOO WIDE instead, and makes none." */
+    private void checkWide() {
+        if (!handOverAll()) {
+            return;
+        }
+        wideToTheEnd++;
+        int made = 0;
+        for (int a = 0; a < n; a++) {
+            boolean makesOne = !isWideBelow(a);
+            made += makesOne ? 1 : 0;
+            Check.same("parent", parent[a], x.call().parent(a));
+            Check.same("separator", separator(a), x.call().separator(a));
+            Check.same("entries", makesOne ? entriesOf(a) : NONE, x.call().entries(a));
+        }
+        Check.same("tables()", made, x.call().tables());
+        Check.same("done()", 3, x.call().done());
+        Check.same("total()", NONE, x.call().total());
+    }
+
+    private boolean isWideBelow(int top) {
+        boolean wide = false;
+        for (int a = 0; a < n; a++) {
+            wide = wide || isBelow(a, top) && entriesOf(a) > 256;
+        }
+        return wide;
+    }
+
+    /** Lets all agents send again what was lost, the lowest first: whether the calls lasted to the last letter. */
+    private boolean handOverAll() {
+        for (int i = n; i >= 0; i--) {
+            letters = i < n ? x.call().again(walked[i]) : letters;
+            while (letters > 0 && x.left() > CALLS_AT_THE_END) {
+                letters = x.call().letter(0, 0);
+            }
+            if (x.left() <= CALLS_AT_THE_END) {
+                return false;
+            }
+        }
+        return true;
     }
 
     /** What these agents cost, with their pairs with others. */

@@ -6,8 +6,8 @@ import java.util.Random;
 /**
  * Random problems whose letters are lost, doubled and handed over in any order. The tree is found by a plain
  * walk, and every table, choice, value and total by trying out every assignment. Of the letters some are looked at,
- * as many as 512 calls allow. Hardly any problem that is made at random has an agent that is too wide: those that may
- * have one are joined by pairs that stand here.
+ * as many as 512 calls allow. MOST_ASSIGNMENTS leaves no room for an agent that is too wide, and of larger problems
+ * that are made at random hardly any has one: those that may have one are joined by pairs that stand here.
  */
 public final class RandomRunsTest {
     private static final int NONE = BargainTree.NONE;
